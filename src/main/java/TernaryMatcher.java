@@ -21,6 +21,7 @@ public final class TernaryMatcher {
     private static final int BANK_SLOTS = 8;
     private static final int KEYS = 256;
     private static final int ALL_BITS = 255;
+    private static final int MOST_BLOCKS = 14;
     private static final int RANKS = 100;
     private static final int ACTIONS = 10;
     private static final int PLACINGS = 3;
@@ -339,11 +340,14 @@ public final class TernaryMatcher {
     }
 
     private static int blocksOf(int low, int high) {
-        int blocks = 0;
-        for (int from = low; from <= high && from < KEYS; from += blockSize(from, high)) {
-            blocks++;
+        int from = low;
+        for (int blocks = 0; blocks < MOST_BLOCKS; blocks++) {
+            if (from > high) {
+                return blocks;
+            }
+            from += blockSize(from, high);
         }
-        return blocks;
+        return MOST_BLOCKS;
     }
 
     private static int blockSize(int from, int high) {
@@ -481,12 +485,11 @@ public final class TernaryMatcher {
         int addBlocks(int low, int high, int rank, int action) {
             int rule = rulesAdded;
             rulesAdded++;
-            int part = 0;
-            int size = 1;
-            for (int from = low; from <= high && from < KEYS; from += size) {
-                size = blockSize(from, high);
+            int from = low;
+            for (int part = 0; part < MOST_BLOCKS && from <= high; part++) {
+                int size = blockSize(from, high);
                 fill(openSlot(rank), rule, part, KEYS - size, from, rank, action);
-                part++;
+                from += size;
             }
             return rule;
         }

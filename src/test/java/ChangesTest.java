@@ -160,6 +160,14 @@ final class ChangesTest {
         memory.addRule(200, 255, 10, 0);
         Due.is("placed in a", memory.slotOf(32, 0), 15);
         Due.is("2 moves to 1", memory.slotOf(2, 0), 1);
+        memory = withGaps(16, 0);
+        memory.search(3);
+        Due.is("down to the slot 0", memory.wouldMove(10), 15);
+        memory.addRule(200, 255, 10, 0);
+        Due.is("placed in a", memory.slotOf(32, 0), 15);
+        Due.is("1 moves to 0", memory.slotOf(1, 0), 0);
+        Due.is("hits move along", memory.hits(3), 1);
+        Due.is("the others have none", memory.hits(2) + memory.hits(4), 0);
         memory = withGaps(16, 31);
         Due.is("only up", memory.wouldMove(10), 15);
         memory.addRule(200, 255, 10, 0);

@@ -5,6 +5,7 @@ final class HistoryTest {
         onlyFourStates();
         whatIsNotRecorded();
         undoTakesAllBack();
+        undoBringsBackWholeEntries();
         keeping();
         restoring();
         restoreIsAChange();
@@ -101,6 +102,28 @@ final class HistoryTest {
         Due.is("searches", memory.total(5), 0);
         Due.is("powers", memory.total(6), 0);
         Due.is("the state was that before rule 1", memory.addRule(3, 255, 4, 1), 1);
+    }
+
+    private static void undoBringsBackWholeEntries() {
+        TernaryMatcher memory = new TernaryMatcher();
+        memory.addRange(2, 4, 50, 3);
+        memory.search(4);
+        memory.remove(0);
+        memory.addRule(0b10100101, 0b10101010, 60, 9);
+        memory.addRule(0b01000000, 0b01010101, 70, 8);
+        memory.undo();
+        memory.undo();
+        Due.is("undo remove", memory.undo(), 1);
+        for (int part = 0; part < 2; part++) {
+            Due.is("slot of part " + part, memory.slotOf(0, part), part);
+            Due.is("rule in slot " + part, memory.ruleIn(part), 0);
+            Due.is("mask in slot " + part, memory.maskIn(part), 254 + part);
+            Due.is("value in slot " + part, memory.valueIn(part), 2 + 2 * part);
+        }
+        Due.is("rank", memory.rank(0), 50);
+        Due.is("action", memory.action(0), 3);
+        Due.is("hits", memory.hits(0), 1);
+        Due.is("entries", memory.total(0), 2);
     }
 
     private static void keeping() {

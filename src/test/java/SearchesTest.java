@@ -83,6 +83,13 @@ final class SearchesTest {
         Due.is("slot 10", memory.filterValue(1), 0b10011010);
         Due.is("slot 0", memory.filterValue(0), 0b10101000);
         Due.is("bank 3 is empty", memory.filterMask(3), 0);
+        memory = Due.filled(16, 5);
+        for (int rule = 0; rule < 8; rule++) {
+            memory.remove(rule);
+        }
+        Due.is("slot 8 is not in bank 0", memory.filterMask(0), 0);
+        Due.is("slot 8 is in bank 1", memory.filterMask(1), 0b11111000);
+        Due.is("slot 8 is in bank 1", memory.filterValue(1), 8);
         memory = Due.filled(32, 5);
         for (int bank = 0; bank < 4; bank++) {
             Due.is("eight keys, bank " + bank, memory.filterMask(bank), 0b11111000);
@@ -201,11 +208,17 @@ final class SearchesTest {
         for (int what : off) {
             Due.is("total(" + what + ")", memory.total(what), TernaryMatcher.OUT_OF_RANGE);
         }
+        memory = Due.filled(32, 5);
+        Due.is("each is found", memory.total(7), 0);
+        Due.is("the other keys", memory.total(8), 224);
         memory = new TernaryMatcher();
         memory.addRule(0, 128, 1, 0);
         memory.addRule(128, 128, 1, 0);
         memory.addRule(0, 64, 1, 0);
         Due.is("hidden by several together", memory.total(7), 1);
+        Due.is("both hide a part of it", memory.keysFor(2), 0);
+        Due.is("half each", memory.keysFor(0), 128);
+        Due.is("half each", memory.keysFor(1), 128);
         Due.is("no single entry hides it", memory.hiddenBy(2), TernaryMatcher.NONE);
         Due.is("every key finds one", memory.total(8), 0);
     }

@@ -2,15 +2,21 @@
 final class Due {
     private static int checks = 0;
     private static int wrong = 0;
+    private static String about = "";
 
     private Due() {
+    }
+
+    /** Sets what is printed ahead of the checks that follow. */
+    static void about(String what) {
+        about = what;
     }
 
     static void is(String call, long got, long want) {
         checks++;
         if (got != want) {
             wrong++;
-            System.out.println(call + " answered " + got + ", due is " + want);
+            System.out.println(about + call + " answered " + got + ", due is " + want);
         }
     }
 
@@ -18,8 +24,12 @@ final class Due {
         checks++;
         if (!stands) {
             wrong++;
-            System.out.println("does not hold: " + what);
+            System.out.println(about + "does not hold: " + what);
         }
+    }
+
+    static int checks() {
+        return checks;
     }
 
     static boolean anyWrong() {
@@ -32,21 +42,5 @@ final class Due {
         if (wrong > 0 || checks == 0) {
             System.exit(1);
         }
-    }
-
-    /** Types all characters of a text. */
-    static void typeAll(TernaryMatcher memory, String text) {
-        for (int i = 0; i < text.length(); i++) {
-            memory.type(text.charAt(i));
-        }
-    }
-
-    /** Adds rules of one rank until the memory has that many entries; the keys are 0, 1, 2, .. */
-    static TernaryMatcher filled(int entries, int rank) {
-        TernaryMatcher memory = new TernaryMatcher();
-        for (int key = 0; key < entries; key++) {
-            memory.addRule(key, 255, rank, key % 10);
-        }
-        return memory;
     }
 }

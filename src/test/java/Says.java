@@ -1,0 +1,15 @@
+import java.lang.annotation.ElementType;
+import java.lang.annotation.Retention;
+import java.lang.annotation.RetentionPolicy;
+import java.lang.annotation.Target;
+
+/** The words of the document that a test holds the class to. */
+@Retention(RetentionPolicy.RUNTIME)
+@Target(ElementType.METHOD)
+@interface Says {
+    /** The part of the document: a heading in capitals of "Terms", or "Promise 1" to "Promise 32". */
+    String in();
+
+    /** Words of this part, as they stand there. */
+    String[] words();
+}

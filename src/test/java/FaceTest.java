@@ -2,34 +2,59 @@ import java.lang.reflect.Constructor;
 import java.lang.reflect.Field;
 import java.lang.reflect.Method;
 import java.lang.reflect.Modifier;
+import java.nio.file.Files;
+import java.nio.file.Path;
+import java.util.Map;
 import java.util.Set;
+import java.util.TreeMap;
 import java.util.TreeSet;
+import java.util.regex.Matcher;
+import java.util.regex.Pattern;
 
-/** The public face: its constants, constructor and methods, and nothing else. */
+/**
+ * The public face: the constants, the constructor and the methods of the document's code block, and nothing else.
+ * Run it at the project's root.
+ */
 final class FaceTest {
-    private static final String[] METHODS = {
-        "addRule(int,int,int,int)", "addRange(int,int,int,int)", "remove(int)", "setPlacing(int)",
-        "compact()", "spread()", "search(int)", "type(char)", "clearText()", "addText()", "undo()",
-        "keep()", "restore()", "ruleIn(int)", "maskIn(int)", "valueIn(int)", "sortIn(int)",
-        "slotOf(int,int)", "parts(int)", "rank(int)", "action(int)", "hits(int)", "find(int)",
-        "power(int)", "filterMask(int)", "filterValue(int)", "hiddenBy(int)", "keysFor(int)",
-        "wouldMove(int)", "entriesFor(int,int)", "total(int)"
-    };
+    private static final Path DOCUMENT = Path.of("../shared/DOC.md");
+    private static final Path SOURCE = Path.of("src/main/java/TernaryMatcher.java");
+    private static final Map<String, Integer> CONSTANTS = new TreeMap<>();
+    private static final Set<String> METHODS = new TreeSet<>();
     private static final Set<String> PUBLIC_NAMES = new TreeSet<>();
 
-    public static void main(String[] args) {
+    public static void main(String[] args) throws Exception {
+        String document = Files.readString(DOCUMENT);
+        readFace(document);
         constants();
         publicMethods();
         nothingElseIsSeen();
         insideClasses();
+        headings(document, Files.readString(SOURCE));
         Due.end("FaceTest");
     }
 
-    private static void constants() {
-        Due.is("UNKNOWN", TernaryMatcher.UNKNOWN, -1);
-        Due.is("OUT_OF_RANGE", TernaryMatcher.OUT_OF_RANGE, -2);
-        Due.is("FULL", TernaryMatcher.FULL, -3);
-        Due.is("NONE", TernaryMatcher.NONE, -4);
+    private static void readFace(String document) {
+        int from = document.indexOf("```java");
+        String face = document.substring(from, document.indexOf("```", from + 3));
+        Matcher constant = Pattern.compile("public static final int (\\w+) = (-\\d+);").matcher(face);
+        while (constant.find()) {
+            CONSTANTS.put(constant.group(1), Integer.valueOf(constant.group(2)));
+        }
+        Matcher method = Pattern.compile("public int (\\w+)\\((.*)\\);").matcher(face);
+        while (method.find()) {
+            // Only the types of the parameters are kept.
+            METHODS.add(method.group(1) + "(" + method.group(2).replaceAll("(\\w+) \\w+", "$1").replace(" ", "") + ")");
+        }
+        Due.is("constants of the document", CONSTANTS.size(), 4);
+        Due.is("methods of the document", METHODS.size(), 31);
+    }
+
+    private static void constants() throws ReflectiveOperationException {
+        for (Map.Entry<String, Integer> constant : CONSTANTS.entrySet()) {
+            Field field = TernaryMatcher.class.getField(constant.getKey());
+            Due.holds(field + " is an int", field.getType() == int.class);
+            Due.is(constant.getKey(), field.getInt(null), constant.getValue());
+        }
     }
 
     private static void publicMethods() {
@@ -45,7 +70,7 @@ final class FaceTest {
                 Due.holds(method + " is not static", !Modifier.isStatic(method.getModifiers()));
             }
         }
-        Due.holds("the methods are those of the document: " + found, found.equals(Set.of(METHODS)));
+        Due.holds("the methods are those of the document: " + found, found.equals(METHODS));
     }
 
     private static void nothingElseIsSeen() {
@@ -55,9 +80,8 @@ final class FaceTest {
                 Due.holds(method + " bears its own name", !PUBLIC_NAMES.contains(method.getName()));
             }
         }
-        Set<String> constants = Set.of("UNKNOWN", "OUT_OF_RANGE", "FULL", "NONE");
         for (Field field : TernaryMatcher.class.getDeclaredFields()) {
-            boolean seen = constants.contains(field.getName());
+            boolean seen = CONSTANTS.containsKey(field.getName());
             Due.holds(field + " is seen just if it is a constant of the document",
                     seen ? Modifier.isPublic(field.getModifiers()) : Modifier.isPrivate(field.getModifiers()));
         }
@@ -90,6 +114,27 @@ final class FaceTest {
             }
         }
         Due.holds(of + " has at most twenty fields", fields <= 20);
+    }
+
+    /** Ahead of which calls the document says that a heading stands. */
+    private static void headings(String document, String source) {
+        Matcher said = Pattern.compile("Ahead of the calls (.*) the interface says: (---- .*)\\.").matcher(document);
+        int headings = 0;
+        while (said.find()) {
+            headings++;
+            int from = source.indexOf("    // " + said.group(2) + "\n");
+            Due.holds(said.group(2) + " stands in the source", from >= 0);
+            if (from >= 0) {
+                int next = source.indexOf("    // ----", from + 1);
+                StringBuilder below = new StringBuilder();
+                Matcher method = Pattern.compile("public int (\\w+)\\(").matcher(source.substring(from, next));
+                while (method.find()) {
+                    below.append(below.length() == 0 ? "`" : ", `").append(method.group(1)).append('`');
+                }
+                Due.holds(said.group(2) + " stands ahead of " + below, below.toString().equals(said.group(1)));
+            }
+        }
+        Due.is("headings of the document", headings, 5);
     }
 
     private static String signature(Method method) {
